@@ -1,4 +1,4 @@
-/** Counts checks, prints those that fail, and tells what an object answers to all calls that only ask. */
+/** Counts checks, and prints those that fail. */
 final class Checks {
     interface Call {
         long run();
@@ -28,24 +28,21 @@ final class Checks {
         fail(what);
     }
 
-    /** The call must throw just this exception, and the object must answer as before. */
-    void dueThrows(String call, LineTemplates x, Class<? extends RuntimeException> want, Call run) {
-        String before = allAnswers(x);
-        String got = outcome(run);
+    /** The call must throw just this exception; that it changes nothing at all is looked at in Sentences. */
+    void dueThrows(String call, Log x, Class<? extends RuntimeException> want, Told.Call run) {
+        String before = fewAnswers(x);
+        String got = Told.outcome(x, run);
         if (!got.equals(want.getSimpleName())) {
             fail(call + " gave " + got + ", due is " + want.getSimpleName());
-        } else if (!allAnswers(x).equals(before)) {
+        } else if (!fewAnswers(x).equals(before)) {
             fail(call + " threw, but changed something");
         } else {
             passed++;
         }
     }
 
-    /** The call must leave every answer as it was. */
-    void dueUnchanged(String call, LineTemplates x, Call run) {
-        String before = allAnswers(x);
-        outcome(run);
-        dueTrue(call + " changed something", allAnswers(x).equals(before));
+    private static String fewAnswers(Log x) {
+        return x.about(0) + " " + x.about(1) + " " + x.about(3) + " " + x.about(4) + " " + x.errorPosition();
     }
 
     void fail(String what) {
@@ -69,49 +66,5 @@ final class Checks {
         } catch (RuntimeException e) {
             return e.getClass().getSimpleName();
         }
-    }
-
-    static String allAnswers(LineTemplates x) {
-        StringBuilder all = new StringBuilder();
-        for (int what = 0; what < 8; what++) {
-            all.append(x.about(what)).append(' ');
-        }
-        for (int i = 0; i < x.about(0); i++) {
-            all.append('\n').append(lineText(x, i));
-            for (int what = 0; what < 4; what++) {
-                all.append(' ').append(x.line(i, what));
-            }
-        }
-        for (int t = 0; t < x.about(1); t++) {
-            all.append('\n');
-            for (int what = 0; what < 6; what++) {
-                all.append(' ').append(x.template(t, what));
-            }
-            for (int p = 0; p < x.template(t, 0); p++) {
-                for (int what = 0; what < 3; what++) {
-                    all.append(' ').append(x.piece(t, p, what));
-                }
-                all.append(' ').append(x.rises(t, p));
-            }
-            all.append(' ').append(nextText(x, t));
-        }
-        all.append('\n').append(x.errorPosition()).append(' ').append(x.which());
-        return all.append(' ').append(x.wouldCost()).append(' ').append(x.saves()).toString();
-    }
-
-    static String lineText(LineTemplates x, int i) {
-        StringBuilder text = new StringBuilder();
-        for (int k = 0; x.charAt(i, k) != LineTemplates.NONE; k++) {
-            text.append((char) x.charAt(i, k));
-        }
-        return text.toString();
-    }
-
-    static String nextText(LineTemplates x, int t) {
-        StringBuilder text = new StringBuilder();
-        for (int k = 0; x.next(t, k) != LineTemplates.NONE; k++) {
-            text.append((char) x.next(t, k));
-        }
-        return text.toString();
     }
 }

@@ -31,7 +31,6 @@ public final class PromiseTests {
         tests.open();
         tests.forget();
         tests.undo();
-        tests.undoOfEachAction();
         tests.which();
         tests.wouldCost();
         tests.saves();
@@ -45,7 +44,7 @@ public final class PromiseTests {
         tests.checks.close();
     }
 
-    private static LineTemplates write(LineTemplates x, String text) {
+    private static Log write(Log x, String text) {
         x.clearText();
         for (int k = 0; k < text.length(); k++) {
             x.append(text.charAt(k));
@@ -53,8 +52,8 @@ public final class PromiseTests {
         return x;
     }
 
-    private static LineTemplates log(String... lines) {
-        LineTemplates x = new LineTemplates();
+    private static Log log(String... lines) {
+        Log x = new Log();
         for (String line : lines) {
             write(x, line).take();
         }
@@ -62,12 +61,12 @@ public final class PromiseTests {
     }
 
     /** Twelve templates of one line each; the letters are words that can all be learned from. */
-    private static LineTemplates fullOfTemplates() {
+    private static Log fullOfTemplates() {
         return log("a", "b", "c", "d", "e", "f", "g", "h", "i", "j", "k", "l");
     }
 
-    private static LineTemplates fullOfLines() {
-        LineTemplates x = log("a 1");
+    private static Log fullOfLines() {
+        Log x = log("a 1");
         for (int i = 1; i < 24; i++) {
             x.again(0);
         }
@@ -83,7 +82,7 @@ public final class PromiseTests {
     }
 
     /** The templates of all lines, one behind the other. */
-    private static String templatesOf(LineTemplates x) {
+    private static String templatesOf(Log x) {
         StringBuilder all = new StringBuilder();
         for (int i = 0; i < x.about(0); i++) {
             all.append(i == 0 ? "" : " ").append(x.line(i, 0));
@@ -91,7 +90,7 @@ public final class PromiseTests {
         return all.toString();
     }
 
-    private static String costsOf(LineTemplates x) {
+    private static String costsOf(Log x) {
         StringBuilder all = new StringBuilder();
         for (int i = 0; i < x.about(0); i++) {
             all.append(i == 0 ? "" : " ").append(x.line(i, 2));
@@ -99,7 +98,7 @@ public final class PromiseTests {
         return all.toString();
     }
 
-    private static String kindsOf(LineTemplates x, int t) {
+    private static String kindsOf(Log x, int t) {
         StringBuilder all = new StringBuilder();
         for (int p = 0; p < x.template(t, 0); p++) {
             all.append(x.piece(t, p, 0));
@@ -111,16 +110,16 @@ public final class PromiseTests {
 
     private void newObject() {
         due("NONE", LineTemplates.NONE, -9999);
-        LineTemplates x = new LineTemplates();
+        Log x = new Log();
         for (int what = 0; what < 8; what++) {
             due("about(" + what + ") of a new log", x.about(what), 0);
         }
         due("errorPosition() of a new log", x.errorPosition(), 0);
         due("learn() of a new log", x.learn(), NONE);
-        LineTemplates y = new LineTemplates();
-        checks.dueThrows("undo() of a new log", y, STATE, () -> y.undo());
-        checks.dueThrows("restore(0) of a new log", y, STATE, () -> y.restore(0));
-        checks.dueThrows("take() of a new log", y, STATE, () -> y.take());
+        Log y = new Log();
+        checks.dueThrows("undo() of a new log", y, STATE, log -> log.undo());
+        checks.dueThrows("restore(0) of a new log", y, STATE, log -> log.restore(0));
+        checks.dueThrows("take() of a new log", y, STATE, log -> log.take());
         due("clearText() of a new log", y.clearText(), 0);
         write(x, "a").take();
         due("another object has its own lines", y.about(0), 0);
@@ -129,18 +128,18 @@ public final class PromiseTests {
     // Promise 2
 
     private void append() {
-        LineTemplates x = new LineTemplates();
+        Log x = new Log();
         due("append(0)", x.append(0), 1);
         due("append(255)", x.append(255), 2);
         for (int k = 3; k <= 50; k++) {
             due("append to length " + k, x.append('a'), k);
         }
-        checks.dueThrows("append to a full text", x, STATE, () -> x.append('a'));
-        checks.dueThrows("append(-1) to a full text", x, ARGUMENT, () -> x.append(-1));
-        checks.dueThrows("append(256) to a full text", x, ARGUMENT, () -> x.append(256));
+        checks.dueThrows("append to a full text", x, STATE, log -> log.append('a'));
+        checks.dueThrows("append(-1) to a full text", x, ARGUMENT, log -> log.append(-1));
+        checks.dueThrows("append(256) to a full text", x, ARGUMENT, log -> log.append(256));
         due("length after refused characters", x.clearText(), 50);
         for (int c : new int[] {-1, 256, Integer.MIN_VALUE, Integer.MAX_VALUE}) {
-            checks.dueThrows("append(" + c + ")", x, ARGUMENT, () -> x.append(c));
+            checks.dueThrows("append(" + c + ")", x, ARGUMENT, log -> log.append(c));
         }
         due("append after refused characters", x.append('b'), 1);
     }
@@ -148,7 +147,7 @@ public final class PromiseTests {
     // Promise 3
 
     private void clearText() {
-        LineTemplates x = log("ab 1");
+        Log x = log("ab 1");
         due("clearText()", x.clearText(), 4);
         due("clearText() of an empty text", x.clearText(), 0);
         due("errorPosition() of the emptied text", x.errorPosition(), 0);
@@ -194,13 +193,13 @@ public final class PromiseTests {
     }
 
     private void dueError(String text, int want) {
-        due("errorPosition() of <" + text + ">", write(new LineTemplates(), text).errorPosition(), want);
+        due("errorPosition() of <" + text + ">", write(new Log(), text).errorPosition(), want);
     }
 
     // Promise 5
 
     private void about() {
-        LineTemplates x = log("get a 1", "get a 2", "put a 30", "x=7:x", "  ");
+        Log x = log("get a 1", "get a 2", "put a 30", "x=7:x", "  ");
         int[] want = {5, 4, 29, 10, 21, 3, 0, 4};
         for (int what = 0; what < 8; what++) {
             due("about(" + what + ")", x.about(what), want[what]);
@@ -211,13 +210,13 @@ public final class PromiseTests {
             due("about(" + what + ") when learnt", x.about(what), learnt[what]);
         }
         for (int what : new int[] {-1, 8, NONE, Integer.MIN_VALUE, Integer.MAX_VALUE}) {
-            checks.dueThrows("about(" + what + ")", x, ARGUMENT, () -> x.about(what));
+            checks.dueThrows("about(" + what + ")", x, ARGUMENT, log -> log.about(what));
         }
         due("words twice in one line, and parts of others", log("ab ab:aba b", "ab1b aba").about(7), 3);
         due("words in no line any more", removed(log("ab", "cd"), 0).about(7), 1);
     }
 
-    private static LineTemplates removed(LineTemplates x, int i) {
+    private static Log removed(Log x, int i) {
         x.remove(i);
         return x;
     }
@@ -225,7 +224,7 @@ public final class PromiseTests {
     // Promise 6
 
     private void line() {
-        LineTemplates x = log("a 7", "b 10", "a 8", "a 9", "a 10", "b 010", "a 11");
+        Log x = log("a 7", "b 10", "a 8", "a 9", "a 10", "b 010", "a 11");
         dueText("templates", templatesOf(x), "0 1 0 0 0 1 0");
         // 8 is 7 + 0 + 1: a step of 0 at first; 10 has more digits than 9.
         dueText("costs", costsOf(x), "2 3 2 2 3 4 2");
@@ -236,11 +235,11 @@ public final class PromiseTests {
             due("line(" + i + ", 3)", x.line(i, 3), before[i]);
         }
         for (int i : new int[] {-1, 7, 24, Integer.MIN_VALUE, Integer.MAX_VALUE}) {
-            checks.dueThrows("line(" + i + ", 0)", x, INDEX, () -> x.line(i, 0));
-            checks.dueThrows("line(" + i + ", 9)", x, INDEX, () -> x.line(i, 9));
+            checks.dueThrows("line(" + i + ", 0)", x, INDEX, log -> log.line(i, 0));
+            checks.dueThrows("line(" + i + ", 9)", x, INDEX, log -> log.line(i, 9));
         }
         for (int what : new int[] {-1, 4, Integer.MIN_VALUE, Integer.MAX_VALUE}) {
-            checks.dueThrows("line(0, " + what + ")", x, ARGUMENT, () -> x.line(0, what));
+            checks.dueThrows("line(0, " + what + ")", x, ARGUMENT, log -> log.line(0, what));
         }
         lineCosts();
     }
@@ -253,10 +252,10 @@ public final class PromiseTests {
         dueText("as many digits", costsOf(log("098", "099", "100", "0101")), "4 4 2 5");
         dueText("two numbers", costsOf(log("100 200", "110 200", "120 200", "130 201")), "7 5 3 5");
         dueText("other templates between", costsOf(log("a10", "b10", "a20", "b10", "a30")), "3 3 3 2 2");
-        LineTemplates x = log("get", "put", "get", "delete", "put");
+        Log x = log("get", "put", "get", "delete", "put");
         x.learnAll();
         dueText("words in a slot", costsOf(x), "4 4 2 7 2");
-        LineTemplates y = log("get get", "put get", "get get");
+        Log y = log("get get", "put get", "get get");
         y.open(0, 2);
         dueText("a fixed word costs nothing", costsOf(y), "4 1 2");
     }
@@ -264,45 +263,45 @@ public final class PromiseTests {
     // Promise 7
 
     private void charAt() {
-        LineTemplates x = log("ab  09:=z", "c");
-        dueText("line 0", Checks.lineText(x, 0), "ab  09:=z");
-        dueText("line 1", Checks.lineText(x, 1), "c");
+        Log x = log("ab  09:=z", "c");
+        dueText("line 0", Told.line(x, 0), "ab  09:=z");
+        dueText("line 1", Told.line(x, 1), "c");
         due("charAt(0, 8)", x.charAt(0, 8), 'z');
         due("charAt(0, 9)", x.charAt(0, 9), NONE);
         due("charAt(1, 1)", x.charAt(1, 1), NONE);
         due("charAt(0, most)", x.charAt(0, Integer.MAX_VALUE), NONE);
-        checks.dueThrows("charAt(0, -1)", x, ARGUMENT, () -> x.charAt(0, -1));
-        checks.dueThrows("charAt(0, least)", x, ARGUMENT, () -> x.charAt(0, Integer.MIN_VALUE));
+        checks.dueThrows("charAt(0, -1)", x, ARGUMENT, log -> log.charAt(0, -1));
+        checks.dueThrows("charAt(0, least)", x, ARGUMENT, log -> log.charAt(0, Integer.MIN_VALUE));
         for (int i : new int[] {-1, 2, Integer.MIN_VALUE, Integer.MAX_VALUE}) {
-            checks.dueThrows("charAt(" + i + ", 0)", x, INDEX, () -> x.charAt(i, 0));
-            checks.dueThrows("charAt(" + i + ", -1)", x, INDEX, () -> x.charAt(i, -1));
+            checks.dueThrows("charAt(" + i + ", 0)", x, INDEX, log -> log.charAt(i, 0));
+            checks.dueThrows("charAt(" + i + ", -1)", x, INDEX, log -> log.charAt(i, -1));
         }
         String forty = "abcdefghij klmnopqrst uvwxyzabcd efghijk";
-        dueText("a line of 40 characters", Checks.lineText(log(forty), 0), forty);
+        dueText("a line of 40 characters", Told.line(log(forty), 0), forty);
     }
 
     // Promise 8
 
     private void value() {
-        LineTemplates x = log("a 007=999999", "0");
+        Log x = log("a 007=999999", "0");
         int[] want = {NONE, NONE, 7, NONE, 999999};
         for (int p = 0; p < 5; p++) {
             due("value(0, " + p + ")", x.value(0, p), want[p]);
         }
         due("value(1, 0)", x.value(1, 0), 0);
         for (int p : new int[] {-1, 5, 12, Integer.MIN_VALUE, Integer.MAX_VALUE}) {
-            checks.dueThrows("value(0, " + p + ")", x, INDEX, () -> x.value(0, p));
+            checks.dueThrows("value(0, " + p + ")", x, INDEX, log -> log.value(0, p));
         }
-        checks.dueThrows("value(1, 1)", x, INDEX, () -> x.value(1, 1));
+        checks.dueThrows("value(1, 1)", x, INDEX, log -> log.value(1, 1));
         for (int i : new int[] {-1, 2, Integer.MIN_VALUE, Integer.MAX_VALUE}) {
-            checks.dueThrows("value(" + i + ", 0)", x, INDEX, () -> x.value(i, 0));
+            checks.dueThrows("value(" + i + ", 0)", x, INDEX, log -> log.value(i, 0));
         }
     }
 
     // Promise 9
 
     private void template() {
-        LineTemplates x = log("ab  1=2", "cd", "ab  33=44", "ce");
+        Log x = log("ab  1=2", "cd", "ab  33=44", "ce");
         x.learn();
         int[] first = {5, 2, 2, 0, 7, 0};
         int[] second = {1, 2, 0, 1, 1, 1};
@@ -314,18 +313,18 @@ public final class PromiseTests {
         due("first line when line 0 is gone", x.template(0, 5), 1);
         due("second template then", x.template(1, 5), 0);
         for (int t : new int[] {-1, 2, 12, Integer.MIN_VALUE, Integer.MAX_VALUE}) {
-            checks.dueThrows("template(" + t + ", 0)", x, INDEX, () -> x.template(t, 0));
-            checks.dueThrows("template(" + t + ", 6)", x, INDEX, () -> x.template(t, 6));
+            checks.dueThrows("template(" + t + ", 0)", x, INDEX, log -> log.template(t, 0));
+            checks.dueThrows("template(" + t + ", 6)", x, INDEX, log -> log.template(t, 6));
         }
         for (int what : new int[] {-1, 6, Integer.MIN_VALUE, Integer.MAX_VALUE}) {
-            checks.dueThrows("template(0, " + what + ")", x, ARGUMENT, () -> x.template(0, what));
+            checks.dueThrows("template(0, " + what + ")", x, ARGUMENT, log -> log.template(0, what));
         }
     }
 
     // Promise 10
 
     private void piece() {
-        LineTemplates x = log("get   ab=01:7", "get   ab=1:8", "get   cd=1:7");
+        Log x = log("get   ab=01:7", "get   ab=1:8", "get   cd=1:7");
         x.learn();
         int[][] want = {{0, 3, 1}, {1, 3, 1}, {4, 0, 2}, {2, 1, 1}, {3, 0, 1}, {2, 1, 1}, {3, 0, 2}};
         for (int p = 0; p < 7; p++) {
@@ -334,19 +333,19 @@ public final class PromiseTests {
             }
         }
         for (int t : new int[] {-1, 1, Integer.MIN_VALUE, Integer.MAX_VALUE}) {
-            checks.dueThrows("piece(" + t + ", 0, 0)", x, INDEX, () -> x.piece(t, 0, 0));
-            checks.dueThrows("piece(" + t + ", 0, 3)", x, INDEX, () -> x.piece(t, 0, 3));
+            checks.dueThrows("piece(" + t + ", 0, 0)", x, INDEX, log -> log.piece(t, 0, 0));
+            checks.dueThrows("piece(" + t + ", 0, 3)", x, INDEX, log -> log.piece(t, 0, 3));
         }
         for (int p : new int[] {-1, 7, 12, Integer.MIN_VALUE, Integer.MAX_VALUE}) {
-            checks.dueThrows("piece(0, " + p + ", 0)", x, INDEX, () -> x.piece(0, p, 0));
-            checks.dueThrows("piece(0, " + p + ", 3)", x, INDEX, () -> x.piece(0, p, 3));
+            checks.dueThrows("piece(0, " + p + ", 0)", x, INDEX, log -> log.piece(0, p, 0));
+            checks.dueThrows("piece(0, " + p + ", 3)", x, INDEX, log -> log.piece(0, p, 3));
         }
         for (int what : new int[] {-1, 3, Integer.MIN_VALUE, Integer.MAX_VALUE}) {
-            checks.dueThrows("piece(0, 0, " + what + ")", x, ARGUMENT, () -> x.piece(0, 0, what));
+            checks.dueThrows("piece(0, 0, " + what + ")", x, ARGUMENT, log -> log.piece(0, 0, what));
         }
-        LineTemplates y = log("a1b2c3d4e5f6", "ab ab ab");
+        Log y = log("a1b2c3d4e5f6", "ab ab ab");
         due("the twelfth piece", y.piece(0, 11, 0), 3);
-        checks.dueThrows("a thirteenth piece", y, INDEX, () -> y.piece(0, 12, 0));
+        checks.dueThrows("a thirteenth piece", y, INDEX, log -> log.piece(0, 12, 0));
         y.open(1, 4);
         dueText("only the word that was opened is a slot", kindsOf(y, 1), "01014");
         due("one word in a slot", y.piece(1, 4, 2), 1);
@@ -364,7 +363,7 @@ public final class PromiseTests {
         due("equal", log("a 9", "a 09", "a 009").rises(0, 2), 3);
         due("lines of other templates between", log("a 1", "b 9", "a 2", "c", "a 3").rises(0, 2), 3);
         due("a step that comes back", log("a 1", "a 2", "a 4", "a 5", "a 6").rises(0, 2), 3);
-        LineTemplates x = log("a 1=5:", "a 2=5:");
+        Log x = log("a 1=5:", "a 2=5:");
         int[] want = {NONE, NONE, 2, NONE, 2, NONE};
         for (int p = 0; p < 6; p++) {
             due("rises(0, " + p + ")", x.rises(0, p), want[p]);
@@ -372,17 +371,17 @@ public final class PromiseTests {
         x.open(0, 0);
         due("rises at a slot for words", x.rises(0, 0), NONE);
         for (int i : new int[] {-1, 6, Integer.MIN_VALUE, Integer.MAX_VALUE}) {
-            checks.dueThrows("rises(0, " + i + ")", x, INDEX, () -> x.rises(0, i));
-            checks.dueThrows("rises(" + i + ", 0)", x, INDEX, () -> x.rises(i, 0));
+            checks.dueThrows("rises(0, " + i + ")", x, INDEX, log -> log.rises(0, i));
+            checks.dueThrows("rises(" + i + ", 0)", x, INDEX, log -> log.rises(i, 0));
         }
-        checks.dueThrows("rises(1, 0)", x, INDEX, () -> x.rises(1, 0));
+        checks.dueThrows("rises(1, 0)", x, INDEX, log -> log.rises(1, 0));
     }
 
     // Promise 12
 
     private void take() {
-        LineTemplates x = new LineTemplates();
-        checks.dueThrows("take() of no text", x, STATE, () -> x.take());
+        Log x = new Log();
+        checks.dueThrows("take() of no text", x, STATE, log -> log.take());
         due("take()", write(x, "a 1").take(), 0);
         due("the text is kept", x.errorPosition(), NONE);
         due("take() again", x.take(), 0);
@@ -398,24 +397,24 @@ public final class PromiseTests {
         due("a number where a word was", write(x, "1 1").take(), 9);
         due("another number", write(x, "a 999999").take(), 0);
         write(x, "A");
-        checks.dueThrows("take() of no line", x, STATE, () -> x.take());
+        checks.dueThrows("take() of no line", x, STATE, log -> log.take());
         write(x, "1234567");
-        checks.dueThrows("take() of seven digits", x, STATE, () -> x.take());
+        checks.dueThrows("take() of seven digits", x, STATE, log -> log.take());
 
-        LineTemplates y = fullOfTemplates();
+        Log y = fullOfTemplates();
         write(y, "m");
-        checks.dueThrows("take() with 12 templates", y, STATE, () -> y.take());
+        checks.dueThrows("take() with 12 templates", y, STATE, log -> log.take());
         due("take() of a line that fits one of 12", write(y, "l").take(), 11);
 
-        LineTemplates z = fullOfLines();
-        checks.dueThrows("take() with 24 lines", z, STATE, () -> z.take());
+        Log z = fullOfLines();
+        checks.dueThrows("take() with 24 lines", z, STATE, log -> log.take());
         z.remove(3);
         due("take() when one has gone", z.take(), 0);
         due("24 lines", z.about(0), 24);
     }
 
     private void takeGetsFirstFit() {
-        LineTemplates x = log("a x", "b x", "b y");
+        Log x = log("a x", "b x", "b y");
         x.open(1, 0);
         x.open(0, 0);
         due("the first of two that fit", write(x, "b x").take(), 0);
@@ -428,44 +427,44 @@ public final class PromiseTests {
     // Promise 13
 
     private void again() {
-        LineTemplates x = log("a 1", "b 2");
+        Log x = log("a 1", "b 2");
         due("again(1)", x.again(1), 2);
         due("again(0)", x.again(0), 3);
         dueText("templates", templatesOf(x), "0 1 1 0");
-        dueText("the line", Checks.lineText(x, 3), "a 1");
+        dueText("the line", Told.line(x, 3), "a 1");
         due("the text stays", x.clearText(), 3);
         x.open(0, 0);
         due("again(1) when template 0 has a slot", x.again(1), 4);
         dueText("the first that it fits", templatesOf(x), "0 1 1 0 0");
         for (int i : new int[] {-1, 5, Integer.MIN_VALUE, Integer.MAX_VALUE}) {
-            checks.dueThrows("again(" + i + ")", x, INDEX, () -> x.again(i));
+            checks.dueThrows("again(" + i + ")", x, INDEX, log -> log.again(i));
         }
-        LineTemplates y = fullOfLines();
-        checks.dueThrows("again(0) with 24 lines", y, STATE, () -> y.again(0));
-        checks.dueThrows("again(24) with 24 lines", y, INDEX, () -> y.again(24));
+        Log y = fullOfLines();
+        checks.dueThrows("again(0) with 24 lines", y, STATE, log -> log.again(0));
+        checks.dueThrows("again(24) with 24 lines", y, INDEX, log -> log.again(24));
         due("undo() does not count the refused calls", y.undo(), 13);
-        LineTemplates z = fullOfTemplates();
+        Log z = fullOfTemplates();
         due("again(11) with 12 templates", z.again(11), 12);
     }
 
     // Promise 14
 
     private void remove() {
-        LineTemplates x = log("a 1", "b 1", "c 1", "b 2");
+        Log x = log("a 1", "b 1", "c 1", "b 2");
         due("remove(1)", x.remove(1), 3);
         dueText("templates", templatesOf(x), "0 2 1");
         due("remove(0)", x.remove(0), 2);
         dueText("templates behind it", templatesOf(x), "1 0");
-        dueText("line 0", Checks.lineText(x, 0), "c 1");
-        dueText("line 1", Checks.lineText(x, 1), "b 2");
+        dueText("line 0", Told.line(x, 0), "c 1");
+        dueText("line 1", Told.line(x, 1), "b 2");
         for (int i : new int[] {-1, 2, 24, Integer.MIN_VALUE, Integer.MAX_VALUE}) {
-            checks.dueThrows("remove(" + i + ")", x, INDEX, () -> x.remove(i));
+            checks.dueThrows("remove(" + i + ")", x, INDEX, log -> log.remove(i));
         }
         due("remove(1)", x.remove(1), 1);
         due("remove(0)", x.remove(0), 0);
-        checks.dueThrows("remove(0) of no line", x, INDEX, () -> x.remove(0));
+        checks.dueThrows("remove(0) of no line", x, INDEX, log -> log.remove(0));
 
-        LineTemplates y = log("a x", "b x", "c x");
+        Log y = log("a x", "b x", "c x");
         y.learn();
         y.remove(0);
         dueText("a slot stays when its first line goes", templatesOf(y), "0 1");
@@ -473,7 +472,7 @@ public final class PromiseTests {
         due("lines keep their templates", y.remove(0), 1);
         dueText("the last one", kindsOf(y, 0), "010");
 
-        LineTemplates z = fullOfLines();
+        Log z = fullOfLines();
         due("remove(23) of 24", z.remove(23), 1);
         due("lines then", z.about(0), 23);
     }
@@ -481,7 +480,7 @@ public final class PromiseTests {
     // Promise 15
 
     private void learn() {
-        LineTemplates x = log("get a 1", "put a 1", "get b 1", "get a 2", "put b 3");
+        Log x = log("get a 1", "put a 1", "get b 1", "get a 2", "put b 3");
         due("templates", x.about(1), 4);
         due("the first pair", x.learn(), 1);
         dueText("kinds", kindsOf(x, 0), "41013");
@@ -508,21 +507,21 @@ public final class PromiseTests {
         due("the smallest t, then the smallest u", log("a", "p q", "p r", "b").learn(), 3);
         due("far behind", log("a 1", ":", "=", " ", "b 1").learn(), 4);
         due("word slots only at words", log("1", "2").learn(), NONE);
-        LineTemplates x = log("a b", "c d");
+        Log x = log("a b", "c d");
         x.open(0, 0);
         due("a slot and a word, and two words", x.learn(), NONE);
         x.open(1, 0);
         due("slots alike, and two words", x.learn(), 1);
         dueText("kinds", kindsOf(x, 0), "414");
-        LineTemplates y = log("a b", "a c");
+        Log y = log("a b", "a c");
         y.open(0, 2);
         due("a slot and a word", y.learn(), 1);
         dueText("kinds", kindsOf(y, 0), "014");
-        LineTemplates z = log("a b", "a c");
+        Log z = log("a b", "a c");
         z.open(1, 2);
         due("a word and a slot", z.learn(), 1);
         dueText("kinds", kindsOf(z, 0), "014");
-        LineTemplates same = log("a b", "c b");
+        Log same = log("a b", "c b");
         same.open(0, 0);
         same.open(1, 0);
         due("two templates wholly alike", same.learn(), 1);
@@ -534,7 +533,7 @@ public final class PromiseTests {
     // Promise 16
 
     private void learnAll() {
-        LineTemplates x = log("get a", "put a", "get b", "put b", "get a 1", "del a 1", ":");
+        Log x = log("get a", "put a", "get b", "put b", "get a 1", "del a 1", ":");
         due("learnAll()", x.learnAll(), 3);
         dueText("templates", templatesOf(x), "0 0 0 0 1 1 2");
         dueText("kinds", kindsOf(x, 0), "414");
@@ -544,14 +543,14 @@ public final class PromiseTests {
         due("undo() of all that was learned", x.undo(), 7);
         due("about(1)", x.about(1), 7);
         due("twelve become one", fullOfTemplates().learnAll(), 1);
-        due("of no lines", new LineTemplates().learnAll(), 0);
+        due("of no lines", new Log().learnAll(), 0);
         due("none alike", log("a", "1", ":", " ").learnAll(), 4);
     }
 
     // Promise 17
 
     private void open() {
-        LineTemplates x = log("get a=1", "get b=1", "get a=2");
+        Log x = log("get a=1", "get b=1", "get a=2");
         due("open(0, 0)", x.open(0, 0), 5);
         dueText("kinds", kindsOf(x, 0), "41023");
         dueText("others stay", kindsOf(x, 1), "01023");
@@ -559,13 +558,13 @@ public final class PromiseTests {
         due("open(0, 2)", x.open(0, 2), 5);
         dueText("lines stay, though they fit another", templatesOf(x), "0 1 0");
         for (int p : new int[] {0, 1, 3, 4}) {
-            checks.dueThrows("open(0, " + p + ")", x, STATE, () -> x.open(0, p));
+            checks.dueThrows("open(0, " + p + ")", x, STATE, log -> log.open(0, p));
         }
         for (int i : new int[] {-1, 5, 12, Integer.MIN_VALUE, Integer.MAX_VALUE}) {
-            checks.dueThrows("open(0, " + i + ")", x, INDEX, () -> x.open(0, i));
-            checks.dueThrows("open(" + i + ", 0)", x, INDEX, () -> x.open(i, 0));
+            checks.dueThrows("open(0, " + i + ")", x, INDEX, log -> log.open(0, i));
+            checks.dueThrows("open(" + i + ", 0)", x, INDEX, log -> log.open(i, 0));
         }
-        checks.dueThrows("open(2, 0)", x, INDEX, () -> x.open(2, 0));
+        checks.dueThrows("open(2, 0)", x, INDEX, log -> log.open(2, 0));
         due("undo() of open", x.undo(), 4);
         dueText("kinds", kindsOf(x, 0), "41023");
     }
@@ -573,7 +572,7 @@ public final class PromiseTests {
     // Promise 18
 
     private void forget() {
-        LineTemplates x = log("get a", "put a", "get b", "put a", "get b 1");
+        Log x = log("get a", "put a", "get b", "put a", "get b 1");
         x.learnAll();
         dueText("learnt", templatesOf(x), "0 0 1 0 2");
         due("forget()", x.forget(), 4);
@@ -581,9 +580,9 @@ public final class PromiseTests {
         dueText("kinds", kindsOf(x, 0), "010");
         due("undo() of forget", x.undo(), 6);
         dueText("learnt again", templatesOf(x), "0 0 1 0 2");
-        due("forget() of no lines", new LineTemplates().forget(), 0);
+        due("forget() of no lines", new Log().forget(), 0);
 
-        LineTemplates order = log("b", "a", "c", "a");
+        Log order = log("b", "a", "c", "a");
         order.remove(0);
         order.open(1, 0);
         order.again(0);
@@ -591,10 +590,10 @@ public final class PromiseTests {
         due("forget()", order.forget(), 2);
         dueText("in the order of lines", templatesOf(order), "0 1 0 0");
 
-        LineTemplates y = fullOfTemplates();
+        Log y = fullOfTemplates();
         y.learn();
         due("a thirteenth word fits the slot", write(y, "m").take(), 0);
-        checks.dueThrows("forget() with 13", y, STATE, () -> y.forget());
+        checks.dueThrows("forget() with 13", y, STATE, log -> log.forget());
         due("nothing is remembered for it", y.undo(), 13);
         due("forget() with 12", y.forget(), 12);
     }
@@ -602,8 +601,8 @@ public final class PromiseTests {
     // Promise 19
 
     private void undo() {
-        LineTemplates x = new LineTemplates();
-        checks.dueThrows("undo() of nothing", x, STATE, () -> x.undo());
+        Log x = new Log();
+        checks.dueThrows("undo() of nothing", x, STATE, log -> log.undo());
         write(x, "a");
         for (int i = 0; i < 16; i++) {
             x.take();
@@ -612,20 +611,20 @@ public final class PromiseTests {
             due("undo()", x.undo(), left);
             due("lines then", x.about(0), 2 + left);
         }
-        checks.dueThrows("undo() when all is taken back", x, STATE, () -> x.undo());
+        checks.dueThrows("undo() when all is taken back", x, STATE, log -> log.undo());
         due("the text stays", x.clearText(), 1);
         x.again(0);
         due("undo() after a new action", x.undo(), 0);
 
-        LineTemplates y = log("a", "b");
+        Log y = log("a", "b");
         y.undo();
         write(y, "c").take();
         due("undo() is none", y.undo(), 1);
-        dueText("line 0", Checks.lineText(y, 0), "a");
+        dueText("line 0", Told.line(y, 0), "a");
         due("undo()", y.undo(), 0);
         due("no lines", y.about(0), 0);
 
-        LineTemplates exact = new LineTemplates();
+        Log exact = new Log();
         write(exact, "a");
         for (int i = 0; i < 14; i++) {
             exact.take();
@@ -636,33 +635,10 @@ public final class PromiseTests {
         due("14 states are remembered", exact.about(0), 0);
     }
 
-    private void undoOfEachAction() {
-        dueUndone("take()", x -> write(x, "z").take());
-        dueUndone("again(1)", x -> x.again(1));
-        dueUndone("remove(0)", x -> x.remove(0));
-        dueUndone("learn()", x -> x.learn());
-        dueUndone("learnAll()", x -> x.learnAll());
-        dueUndone("open(0, 0)", x -> x.open(0, 0));
-        dueUndone("forget()", x -> x.forget());
-    }
-
-    private interface Action {
-        int on(LineTemplates x);
-    }
-
-    private void dueUndone(String call, Action action) {
-        LineTemplates x = log("get a", "put a", "get b", "get a 1", "del a 2");
-        write(x, "z");
-        String before = Checks.allAnswers(x);
-        action.on(x);
-        due("undo() of " + call, x.undo(), 5);
-        checks.dueTrue(call + " is not taken back wholly", Checks.allAnswers(x).equals(before));
-    }
-
     // Promise 20
 
     private void which() {
-        LineTemplates x = log("get a", "put a", "get 1");
+        Log x = log("get a", "put a", "get 1");
         due("which() of the last", x.which(), 2);
         due("which()", write(x, "put a").which(), 1);
         due("which() with another number", write(x, "get 77").which(), 2);
@@ -672,14 +648,13 @@ public final class PromiseTests {
         due("which() of seven digits", write(x, "get 1234567").which(), NONE);
         x.open(0, 0);
         due("the first of two", write(x, "put a").which(), 0);
-        checks.dueUnchanged("which()", x, () -> x.which());
-        due("which() of a new log", write(new LineTemplates(), "a").which(), NONE);
+        due("which() of a new log", write(new Log(), "a").which(), NONE);
     }
 
     // Promise 21
 
     private void wouldCost() {
-        LineTemplates x = log("a 10", "b 10", "a 12");
+        Log x = log("a 10", "b 10", "a 12");
         dueCost(x, "a 14", 2);
         dueCost(x, "a 15", 3);
         dueCost(x, "a 014", 4);
@@ -693,15 +668,14 @@ public final class PromiseTests {
         dueCost(x, "b 14", 3);
         dueCost(x, "a 14", 3);
         dueCost(x, "delete 9", 8);
-        LineTemplates full = fullOfLines();
+        Log full = fullOfLines();
         due("wouldCost() with 24 lines", full.wouldCost(), 2);
         due("wouldCost() of a new template with 24 lines", write(full, "b 22").wouldCost(), 3);
-        LineTemplates twelve = fullOfTemplates();
+        Log twelve = fullOfTemplates();
         due("wouldCost() with 12 templates", write(twelve, "m 123").wouldCost(), 4);
-        checks.dueUnchanged("wouldCost()", twelve, () -> twelve.wouldCost());
     }
 
-    private void dueCost(LineTemplates x, String text, int want) {
+    private void dueCost(Log x, String text, int want) {
         due("wouldCost() of <" + text + ">", write(x, text).wouldCost(), want);
         if (want != NONE) {
             x.take();
@@ -713,16 +687,15 @@ public final class PromiseTests {
     // Promise 22
 
     private void saves() {
-        due("saves() of no lines", new LineTemplates().saves(), NONE);
+        due("saves() of no lines", new Log().saves(), NONE);
         due("saves() with nothing to learn", log("a b", "c d").saves(), NONE);
         // The templates cost 7 and 7, then 5; the lines 3 more each.
         due("saves()", log("get a 1", "put a 1").saves(), 3);
         due("saves() less than 0", log("get", "put", "get", "put").saves(), -3);
         due("saves() of a long one", log("a bcdefghijklm", "b bcdefghijklm").saves(), 12);
-        LineTemplates x = log("get a 10", "put a 11", "get a 11", "put a 11");
+        Log x = log("get a 10", "put a 11", "get a 11", "put a 11");
         int before = x.about(3) + x.about(4);
         int saved = x.saves();
-        checks.dueUnchanged("saves()", x, () -> x.saves());
         x.learn();
         due("saves() is what learn() saves", saved, before - x.about(3) - x.about(4));
         due("saves() is no action", x.undo(), 4);
@@ -744,33 +717,32 @@ public final class PromiseTests {
         dueNext("the lowest six", "999998", "0", "999999");
         dueNext("two numbers", "12 8", "10 10", "11 9");
         dueNext("no number", "ab  cd", "ab  cd");
-        LineTemplates x = log("a 1", "b 5", "a 2");
-        dueText("another template", Checks.nextText(x, 1), "b 5");
+        Log x = log("a 1", "b 5", "a 2");
+        dueText("another template", Told.next(x, 1), "b 5");
         x.learn();
-        dueText("its last line, and the one before it", Checks.nextText(x, 0), "a 0");
+        dueText("its last line, and the one before it", Told.next(x, 0), "a 0");
         due("behind it", x.next(0, 3), NONE);
         due("far behind it", x.next(0, Integer.MAX_VALUE), NONE);
         String forty = "abcdefghij klmnopqrst uvwxyzabcd efghi 5";
-        LineTemplates y = log(forty);
+        Log y = log(forty);
         write(y, forty.replace('5', '9')).take();
-        dueText("a line of 41 characters", Checks.nextText(y, 0), forty.replace("5", "13"));
-        checks.dueUnchanged("next(0, 0)", x, () -> x.next(0, 0));
+        dueText("a line of 41 characters", Told.next(y, 0), forty.replace("5", "13"));
         for (int t : new int[] {-1, 1, Integer.MIN_VALUE, Integer.MAX_VALUE}) {
-            checks.dueThrows("next(" + t + ", 0)", x, INDEX, () -> x.next(t, 0));
-            checks.dueThrows("next(" + t + ", -1)", x, INDEX, () -> x.next(t, -1));
+            checks.dueThrows("next(" + t + ", 0)", x, INDEX, log -> log.next(t, 0));
+            checks.dueThrows("next(" + t + ", -1)", x, INDEX, log -> log.next(t, -1));
         }
-        checks.dueThrows("next(0, -1)", x, ARGUMENT, () -> x.next(0, -1));
-        checks.dueThrows("next(0, least)", x, ARGUMENT, () -> x.next(0, Integer.MIN_VALUE));
+        checks.dueThrows("next(0, -1)", x, ARGUMENT, log -> log.next(0, -1));
+        checks.dueThrows("next(0, least)", x, ARGUMENT, log -> log.next(0, Integer.MIN_VALUE));
     }
 
     private void dueNext(String what, String want, String... lines) {
-        dueText("next line, " + what, Checks.nextText(log(lines), 0), want);
+        dueText("next line, " + what, Told.next(log(lines), 0), want);
     }
 
     // Promise 24
 
     private void withValue() {
-        LineTemplates x = log("7 7", "a 07", "a 8=7", "17", "seven", "999999", "0:000");
+        Log x = log("7 7", "a 07", "a 8=7", "17", "seven", "999999", "0:000");
         due("withValue(7)", x.withValue(7), 3);
         due("withValue(8)", x.withValue(8), 1);
         due("withValue(17)", x.withValue(17), 1);
@@ -778,16 +750,16 @@ public final class PromiseTests {
         due("withValue(0)", x.withValue(0), 1);
         due("withValue(999999)", x.withValue(999999), 1);
         for (int v : new int[] {-1, 1000000, NONE, Integer.MIN_VALUE, Integer.MAX_VALUE}) {
-            checks.dueThrows("withValue(" + v + ")", x, ARGUMENT, () -> x.withValue(v));
+            checks.dueThrows("withValue(" + v + ")", x, ARGUMENT, log -> log.withValue(v));
         }
-        due("withValue(0) of no lines", new LineTemplates().withValue(0), 0);
+        due("withValue(0) of no lines", new Log().withValue(0), 0);
     }
 
     // Promise 25
 
     private void runScript() {
-        LineTemplates x = log("get a 1", "put a 2", "get a 3");
-        String before = Checks.allAnswers(x);
+        Log x = log("get a 1", "put a 2", "get a 3");
+        String before = Told.sums(x);
         due("again, again, and their templates", x.runScript(4, 1010102090319040L), NONE);
         due("a line that does not exist yet", x.runScript(4, 9030102090319040L), 0);
         due("remove, then no line 2", x.runScript(2, 20001020), 1);
@@ -806,34 +778,34 @@ public final class PromiseTests {
         // The lines cost 2 each, the templates 7 each.
         due("all costs", x.runScript(1, 8020), NONE);
         due("all costs, one less", x.runScript(1, 8019), 0);
-        checks.dueTrue("runScript() changed something", Checks.allAnswers(x).equals(before));
+        checks.dueTrue("runScript() changed something", Told.sums(x).equals(before));
         due("runScript() is no action", x.undo(), 2);
 
-        LineTemplates full = fullOfLines();
+        Log full = fullOfLines();
         due("again with 24 lines", full.runScript(1, 1000), 0);
         due("remove, again, again", full.runScript(3, 200010001000L), 2);
-        LineTemplates thirteen = fullOfTemplates();
+        Log thirteen = fullOfTemplates();
         thirteen.learn();
         write(thirteen, "m").take();
         due("forget with 13", thirteen.runScript(1, 6000), 0);
         due("forget with 12", thirteen.runScript(2, 21206000), NONE);
         for (int n : new int[] {0, 5, -1, Integer.MIN_VALUE, Integer.MAX_VALUE}) {
-            checks.dueThrows("runScript(" + n + ", 0)", x, ARGUMENT, () -> x.runScript(n, 0));
+            checks.dueThrows("runScript(" + n + ", 0)", x, ARGUMENT, log -> log.runScript(n, 0));
         }
         long[] tooLong = {10000L, 100000000L, 1000000000000L, 10000000000000000L};
         for (int i = 0; i < 4; i++) {
             int n = i + 1;
             long script = tooLong[i];
-            checks.dueThrows("runScript(" + n + ", " + script + ")", x, ARGUMENT, () -> x.runScript(n, script));
+            checks.dueThrows("runScript(" + n + ", " + script + ")", x, ARGUMENT, log -> log.runScript(n, script));
             due("runScript(" + n + ", " + (script - 1) + ")", x.runScript(n, script - 1), 0);
-            checks.dueThrows("runScript(" + n + ", -1)", x, ARGUMENT, () -> x.runScript(n, -1));
+            checks.dueThrows("runScript(" + n + ", -1)", x, ARGUMENT, log -> log.runScript(n, -1));
         }
-        checks.dueThrows("the longest", x, ARGUMENT, () -> x.runScript(4, Long.MAX_VALUE));
-        checks.dueThrows("the least", x, ARGUMENT, () -> x.runScript(4, Long.MIN_VALUE));
+        checks.dueThrows("the longest", x, ARGUMENT, log -> log.runScript(4, Long.MAX_VALUE));
+        checks.dueThrows("the least", x, ARGUMENT, log -> log.runScript(4, Long.MIN_VALUE));
     }
 
     private void runScriptGroups() {
-        LineTemplates x = log("get a 1", "put a 2", "get a 3");
+        Log x = log("get a 1", "put a 2", "get a 3");
         int[] failing = {0, 1, 10, 999, 1001, 1030, 1240, 1990, 2001, 2030, 3001, 3010, 3100, 4001, 4010, 4100, 5001,
             5010, 5040, 5050, 5090, 5200, 5900, 6001, 6010, 6100, 7000, 7001, 7100, 7102, 7902, 8000, 8019, 9001,
             9010, 9030, 9990, 9009};
@@ -845,7 +817,7 @@ public final class PromiseTests {
         for (int group : succeeding) {
             due("runScript(1, " + group + ")", x.runScript(1, group), NONE);
         }
-        LineTemplates y = fullOfLines();
+        Log y = fullOfLines();
         due("line 23", y.runScript(1, 9230), NONE);
         due("remove line 23", y.runScript(1, 2230), NONE);
         due("no line 24", y.runScript(1, 9240), 0);
@@ -855,8 +827,8 @@ public final class PromiseTests {
     // Promise 26
 
     private void simulate() {
-        LineTemplates x = log("aa 1=m", "get 10");
-        String before = Checks.allAnswers(x);
+        Log x = log("aa 1=m", "get 10");
+        String before = Told.sums(x);
         NaiveLog naive = new NaiveLog();
         for (String line : new String[] {"aa 1=m", "get 10"}) {
             naive.clearText();
@@ -869,21 +841,21 @@ public final class PromiseTests {
                 due("simulate(" + seed + ", " + m + ")", x.simulate(seed, m), naive.simulate(seed, m));
             }
         }
-        checks.dueTrue("simulate() changed something", Checks.allAnswers(x).equals(before));
+        checks.dueTrue("simulate() changed something", Told.sums(x).equals(before));
         due("simulate() is no action", x.undo(), 1);
         for (int m : new int[] {0, 31, -1, Integer.MIN_VALUE, Integer.MAX_VALUE}) {
-            checks.dueThrows("simulate(1, " + m + ")", x, ARGUMENT, () -> x.simulate(1, m));
+            checks.dueThrows("simulate(1, " + m + ")", x, ARGUMENT, log -> log.simulate(1, m));
         }
         simulateFromNothing();
         simulateByHand();
     }
 
     private void simulateFromNothing() {
-        LineTemplates x = new LineTemplates();
+        Log x = new Log();
         NaiveLog naive = new NaiveLog();
         for (long seed = 0; seed < 300; seed++) {
             due("simulate(" + seed + ", 30)", x.simulate(seed, 30), naive.simulate(seed, 30));
-            LineTemplates y = log(simulatedLine(seed));
+            Log y = log(simulatedLine(seed));
             due("the line of " + seed + " has the template of its like", y.simulate(seed, 1) / 1000, 1);
         }
     }
@@ -896,80 +868,39 @@ public final class PromiseTests {
     }
 
     private void simulateByHand() {
-        LineTemplates x = new LineTemplates();
+        Log x = new Log();
         // From 0 the first x is 1442695040888963407 and r is 167951807: the line "cc 9:n" costs 2, its template 6.
         due("simulate(0, 1)", x.simulate(0, 1), 1008);
-        LineTemplates full = fullOfLines();
+        Log full = fullOfLines();
         due("all lines are left out", full.simulate(5, 30), 1000 + full.about(3) + full.about(4));
-        LineTemplates twelve = fullOfTemplates();
+        Log twelve = fullOfTemplates();
         due("a line is left out, and all is learnt", twelve.simulate(5, 1), 1000 + 24 + 1);
-        LineTemplates dear = log("abcdefghijklmnopqrstuvwxyzabcdefghijklmn");
+        Log dear = log("abcdefghijklmnopqrstuvwxyzabcdefghijklmn");
         due("costs", dear.simulate(0, 1) % 1000, 41 + 8);
-        simulateDear();
-    }
-
-    private void simulateDear() {
-        // 24 lines of 1 + 30 digits, and 60 to 69 and 610 to 623, of which 8 and 12 are expected; the template has 11.
-        LineTemplates most = new LineTemplates();
-        for (int i = 0; i < 24; i++) {
-            StringBuilder line = new StringBuilder();
-            for (int factor = 37; factor <= 53; factor += 4) {
-                line.append(100000 + i * i * factor % 1000).append(' ');
-            }
-            write(most, line.append(6).append(i).toString()).take();
-        }
-        due("simulate() tells costs of less than 999 whole", most.simulate(1, 1), 1785);
-
-        // 11 templates of 12 slots, 23 lines of 1 + 40: too much for 512 calls, but the bound holds all the same.
-        LineTemplates more = new LineTemplates();
-        for (int i = 0; i < 11; i++) {
-            write(more, dearLine(i)).take();
-        }
-        for (int t = 0; t < 11; t++) {
-            for (int p = 0; p < 12; p += 2) {
-                more.open(t, p);
-            }
-        }
-        for (int i = 11; i < 23; i++) {
-            write(more, dearLine(i)).take();
-        }
-        due("costs of more than 999", more.about(3) + more.about(4), 23 * 41 + 11 * 12);
-        due("simulate() tells 999 of them", more.simulate(1, 1), 12999);
-    }
-
-    /** Six words and six numbers, 40 characters; no word comes twice, and no number rises by one step. */
-    private static String dearLine(int i) {
-        StringBuilder line = new StringBuilder();
-        for (int p = 0; p < 6; p++) {
-            line.append((char) ('a' + i)).append("xy");
-            line.append(p < 4 ? 1000 + i * i * (7 + p) : 100 + i * i + p);
-        }
-        return line.toString();
     }
 
     // Promise 27
 
     private void save() {
-        LineTemplates x = log("get a", "put a");
+        Log x = log("get a", "put a");
         due("save(0)", x.save(0), 2);
         due("save() is no action", x.undo(), 1);
         due("save(1)", x.save(1), 1);
         due("save(0) once more", x.save(0), 1);
         for (int slot : new int[] {-1, 2, Integer.MIN_VALUE, Integer.MAX_VALUE}) {
-            checks.dueThrows("save(" + slot + ")", x, INDEX, () -> x.save(slot));
+            checks.dueThrows("save(" + slot + ")", x, INDEX, log -> log.save(slot));
         }
-        due("save(0) of no lines", new LineTemplates().save(0), 0);
-        checks.dueUnchanged("save(0)", x, () -> x.save(0));
+        due("save(0) of no lines", new Log().save(0), 0);
     }
 
     // Promise 28
 
     private void restore() {
-        LineTemplates x = log("get a", "put a", "get b");
+        Log x = log("get a", "put a", "get b");
         x.learn();
-        String saved = Checks.allAnswers(x);
+        String saved = Told.lines(x) + Told.templates(x);
         x.save(1);
-        checks.dueThrows("restore(0) when only slot 1 is saved", x, STATE, () -> x.restore(0));
+        checks.dueThrows("restore(0) when only slot 1 is saved", x, STATE, log -> log.restore(0));
         due("nothing was forgotten", x.undo(), 3);
         x.learnAll();
         x.remove(0);
@@ -978,24 +909,24 @@ public final class PromiseTests {
         due("restore(1)", x.restore(1), 3);
         due("the text stays", x.clearText(), 3);
         write(x, "get b");
-        checks.dueTrue("the state is not the saved one", Checks.allAnswers(x).equals(saved));
-        checks.dueThrows("undo() after restore", x, STATE, () -> x.undo());
+        checks.dueTrue("the state is not the saved one", saved.equals(Told.lines(x) + Told.templates(x)));
+        checks.dueThrows("undo() after restore", x, STATE, log -> log.undo());
         x.open(0, 2);
         due("only later actions are remembered", x.undo(), 0);
         x.remove(0);
         due("the slot keeps it", x.restore(1), 3);
-        checks.dueTrue("the second time it is not the saved one", Checks.allAnswers(x).equals(saved));
+        checks.dueTrue("the second time it is not the saved one", saved.equals(Told.lines(x) + Told.templates(x)));
         for (int slot : new int[] {-1, 2, Integer.MIN_VALUE, Integer.MAX_VALUE}) {
-            checks.dueThrows("restore(" + slot + ")", x, INDEX, () -> x.restore(slot));
+            checks.dueThrows("restore(" + slot + ")", x, INDEX, log -> log.restore(slot));
         }
-        LineTemplates y = log("a");
+        Log y = log("a");
         y.save(0);
         write(y, "b").take();
         y.save(1);
         due("undo() does not touch the slots", y.undo(), 1);
         due("restore(1)", y.restore(1), 2);
         due("restore(0)", y.restore(0), 1);
-        LineTemplates none = new LineTemplates();
+        Log none = new Log();
         none.save(0);
         write(none, "a").take();
         due("restore(0) of no lines", none.restore(0), 0);

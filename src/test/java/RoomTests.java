@@ -5,11 +5,12 @@ import java.lang.management.ManagementFactory;
 public final class RoomTests {
     // 7.3 million fields and elements of at least one byte are the room; a run must stay far below it.
     private static final long MOST_BYTES = 400000;
+    private static final int MOST_CALLS_OF_ACTION = 6;
     private static final ThreadMXBean BEAN = (ThreadMXBean) ManagementFactory.getThreadMXBean();
     private static final Checks CHECKS = new Checks("RoomTests");
 
     public static void main(String[] args) {
-        measure("new object", x -> 0);
+        measure("about", x -> x.about(0));
         measure("take and remove", x -> x.take() + x.remove(0));
         measure("take", x -> x.about(0) == 24 ? x.remove(0) : x.take());
         measure("again", x -> x.about(0) == 24 ? x.remove(0) : x.again(0));
@@ -24,7 +25,7 @@ public final class RoomTests {
     }
 
     private interface Action {
-        int on(LineTemplates x);
+        int on(Log x);
     }
 
     private static void measure(String what, Action action) {
@@ -37,13 +38,8 @@ public final class RoomTests {
     }
 
     private static void run(Action action) {
-        LineTemplates x = new LineTemplates();
-        String text = "get a 1=2";
-        for (int k = 0; k < text.length(); k++) {
-            x.append(text.charAt(k));
-        }
-        x.take();
-        for (int i = 0; i < 512; i++) {
+        Log x = Log.of("get a 1=2");
+        while (x.calls() < Log.MOST_CALLS - MOST_CALLS_OF_ACTION) {
             action.on(x);
         }
     }
