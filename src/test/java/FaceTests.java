@@ -12,7 +12,7 @@ import java.util.TreeSet;
 import java.util.regex.Matcher;
 import java.util.regex.Pattern;
 
-/** The class has the document's face and no more, and its file keeps the rules of LANGUAGE.md that can be read off it. */
+/** The class has the document's face and no more; its file keeps the rules of LANGUAGE.md that can be read off it. */
 public final class FaceTests {
     private static final String I = "IllegalArgumentException";
     private static final String S = "IllegalStateException";
@@ -32,7 +32,7 @@ public final class FaceTests {
     public static void main(String[] args) throws Exception {
         face();
         members();
-        source(Files.readString(Path.of(args[0])));
+        source(Files.readString(Path.of("src/main/java/LineTemplates.java")));
         CHECKS.close();
     }
 

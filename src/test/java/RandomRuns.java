@@ -97,7 +97,8 @@ public final class RandomRuns {
     private String someGarbage() {
         StringBuilder text = new StringBuilder();
         int length = random.nextInt(random.nextBoolean() ? 14 : 52);
-        String signs = random.nextInt(3) == 0 ? "ab01 :=" : random.nextBoolean() ? "aaaaaaaaab   1" : "0123456789zy :=;A{/@\u00ff";
+        String signs = random.nextInt(3) == 0 ? "ab01 :="
+                : random.nextBoolean() ? "aaaaaaaaab   1" : "0123456789zy :=;A{/@\u00ff";
         while (text.length() < length) {
             text.append(signs.charAt(random.nextInt(signs.length())));
         }
